@@ -49,6 +49,11 @@ public final class ActsTest {
         CHECK.due("house full", x.house(1, 101, 5), -3);
         CHECK.due("wrong ahead of full", x.house(1, 2, 5), -1);
         CHECK.due("sixty", x.count(1), 60);
+        Tape.act(x, 0, 0, "f");
+        CHECK.due("the last one", x.rate(59, 0, 0), 2);
+        CHECK.due("none behind the last one", x.rate(60, 0, 0), VOID);
+        CHECK.due("all sixty", x.rates(0, 0), 59);
+        CHECK.due("all sixty", x.rates(1, 0), 59);
     }
 
     private static void days() {

@@ -57,6 +57,8 @@ public final class HeightsTest {
         CHECK.due("street full", x.street(2, 3, 4), -3);
         CHECK.due("street wrong ahead of full", x.street(0, 3, 4), -1);
         CHECK.due("still eight", x.count(0), 8);
+        CHECK.due("the last one", x.read(7, 1, 2), 7);
+        CHECK.due("none behind the last one", x.read(8, 0, 0), -1);
     }
 
     private static void heights() {

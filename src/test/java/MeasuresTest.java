@@ -145,7 +145,8 @@ public final class MeasuresTest {
         Tape.feed(x, "12345678");
         x.stones(4, 5);
         x.stones(9, 4);
-        int[] due = {2, 3, 4, 6, 2, 6, 7, 8, 9};
+        x.open(3, 1, 16, 1);
+        int[] due = {2, 3, 4, 7, 3, 6, 7, 8, 9};
         for (int what = 0; what <= 8; what++) {
             CHECK.due("count " + what, x.count(what), due[what]);
         }

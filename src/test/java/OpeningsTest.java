@@ -56,6 +56,7 @@ public final class OpeningsTest {
         CHECK.due("open ones", x.count(4), 1);
         CHECK.due("the greater number of one day", x.sink(0, 0), 199);
         CHECK.due("last", x.opening(199, 0), 3);
+        CHECK.due("none behind the last one", x.opening(200, 0), -2);
     }
 
     private static void back() {

@@ -191,6 +191,9 @@ public final class YearsTest {
         CHECK.due("six", x.plan(0b11110110, 1, 99999, 0, 0), 11 + 12 + 14 + 15 + 16 + 17);
         CHECK.due("not in the set any more", x.planned(0), -1);
         CHECK.due("in the set", x.planned(7), 1);
+        CHECK.due("one of those of the former plan", x.plan(2, 1, 99999, 0, 0), 11);
+        CHECK.due("in the set", x.planned(1), 1);
+        CHECK.due("not in the set any more", x.planned(7), -1);
     }
 
     private static void planByHand() {
