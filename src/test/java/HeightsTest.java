@@ -266,7 +266,7 @@ public final class HeightsTest {
         Random random = new Random(2);
         for (int run = 0; run < 400; run++) {
             PavingTrust x = new PavingTrust();
-            int columns = 1 + random.nextInt(run % 20 == 0 ? 7 : 5);
+            int columns = 1 + random.nextInt(9);
             int[] old = new int[columns];
             x.street(1, columns, 0);
             int base = random.nextInt(100);
@@ -277,7 +277,9 @@ public final class HeightsTest {
             }
             int kennel = random.nextInt(columns);
             int f = random.nextInt(10);
-            int s = Math.min(9, f + random.nextInt(4));
+            // few columns with all widths of falls, many with narrow ones: all levellings are tried
+            int[] widest = {10, 10, 10, 10, 6, 4, 3, 3, 2};
+            int s = Math.min(9, f + random.nextInt(widest[columns - 1]));
             int[] best = new int[columns + 1];
             best[columns] = Integer.MAX_VALUE;
             int[] tried = new int[columns];
