@@ -32,7 +32,7 @@ public final class RefusalTest {
                 CHECK.due("the same call " + method, call(some, method, a), answer);
             }
         }
-        compare(all, some);
+        Same.compare(CHECK, all, some);
     }
 
     private static int argument(Random random, int wildness) {
@@ -75,37 +75,5 @@ public final class RefusalTest {
                     + x.standing(a[0]) + x.most(a[0]) + x.levelled(a[0]) + x.of(a[0]) + x.wear(a[0], a[1]) + x.planned(a[0])
                     + x.drawn(a[0]) + x.read(a[0], a[1], a[2]) + x.count(a[0]) > 0 ? 1 : 0;
         }
-    }
-
-    private static void compare(PavingTrust x, PavingTrust y) {
-        for (int i = -1; i < 10; i++) {
-            CHECK.due("count", x.count(i), y.count(i));
-            CHECK.due("levelled", x.levelled(i), y.levelled(i));
-            CHECK.due("of", x.of(i), y.of(i));
-            CHECK.due("planned", x.planned(i), y.planned(i));
-            CHECK.due("standing", x.standing(i), y.standing(i));
-            CHECK.due("most", x.most(i), y.most(i));
-            CHECK.due("wear", x.wear(i, 40), y.wear(i, 40));
-            CHECK.due("rates", x.rates(i, 300), y.rates(i, 300));
-            for (int at = 0; at < 256; at++) {
-                CHECK.due("read", x.read(i, at / 16, at % 16), y.read(i, at / 16, at % 16));
-                CHECK.due("water", x.water(i, at / 16, at % 16), y.water(i, at / 16, at % 16));
-                CHECK.due("sink", x.sink(i, at), y.sink(i, at));
-            }
-        }
-        for (int i = 0; i < 200; i++) {
-            CHECK.due("drawn", x.drawn(i), y.drawn(i));
-            CHECK.due("rate", x.rate(i, 400, 400), y.rate(i, 400, 400));
-            CHECK.due("clause", x.clause(i, 400), y.clause(i, 400));
-            CHECK.due("penalty", x.penalty(i, x.count(5), 400), y.penalty(i, y.count(5), 400));
-            for (int what = 0; what < 6; what++) {
-                CHECK.due("opening", x.opening(i, what), y.opening(i, what));
-            }
-            CHECK.due("inForce", x.inForce(i % 2, i, i), y.inForce(i % 2, i, i));
-        }
-        CHECK.due("move", x.move(), y.move());
-        CHECK.due("course", x.course(60), y.course(60));
-        CHECK.due("plan", x.plan(3, 1, 999, 0, 0), y.plan(3, 1, 999, 0, 0));
-        CHECK.due("act", x.act(0, 0), y.act(0, 0));
     }
 }
