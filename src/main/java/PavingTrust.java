@@ -310,7 +310,12 @@ public final class PavingTrust {
         if (h == null || !isDay(day)) {
             return BAD;
         }
-        int place = actBook.givingClause(actBook.findInForce(KIND_RATE, day, day), h, day);
+        Act act = actBook.findInForce(KIND_RATE, day, day);
+        if (act == null) {
+            return NOT;
+        }
+        actBook.givePart(act, h, false, day);
+        int place = actBook.reader.givingClause;
         return place == NONE ? NOT : place;
     }
 
@@ -1061,14 +1066,6 @@ public final class PavingTrust {
             values[4] = h.isCorner() ? 1 : 0;
             values[5] = day / DAYS_A_YEAR;
             return keepWithin(reader.readText(act.text, act.text.length, KIND_RATE));
-        }
-
-        int givingClause(Act act, House h, int day) {
-            if (act == null) {
-                return NONE;
-            }
-            givePart(act, h, false, day);
-            return reader.givingClause;
         }
 
         int givePenalty(Act act, Opening o, int day, int openNow) {
