@@ -181,7 +181,7 @@ public final class WholeRunsTest {
             case "height": return square(random.nextInt(2) == 0 ? from(0, 99) : 40 + random.nextInt(8));
             case "read": case "water": return square();
             case "drain": return square(from(0, 1));
-            case "level": return square(10 * from(0, 5) + from(4, 9));
+            case "level": return square(random.nextInt(4) == 0 ? from(0, 99) : 10 * from(0, 5) + from(4, 9));
             case "levelled": return new int[] {from(0, 8)};
             case "stones": return new int[] {from(1, 9), isWide ? from(1, 99) : 1 + random.nextInt(3)};
             case "course": case "lay": return new int[] {from(1, 60)};
@@ -256,7 +256,7 @@ public final class WholeRunsTest {
         StringBuilder text = new StringBuilder();
         for (int i = random.nextInt(isWide ? 2 : 5); i >= 0; i--) {
             text.append(expression(kind, 0));
-            text.append(random.nextInt(3) > 0 && i > 0 ? "?" + expression(kind, 0) : "");
+            text.append(random.nextInt(3) > (i > 0 ? 0 : 1) ? "?" + expression(kind, 0) : "");
             text.append(i > 0 || random.nextInt(4) == 0 ? ";" : "");
         }
         if (random.nextInt(3) == 0) {
@@ -278,7 +278,11 @@ public final class WholeRunsTest {
     private String expression(int kind, int depth) {
         int what = random.nextInt(depth > 4 || isWide ? 3 : 7);
         if (what == 0) {
-            return String.valueOf(random.nextInt(3) == 0 ? random.nextInt(1000000) : random.nextInt(12));
+            return String.valueOf(random.nextInt(3) == 0 ? random.nextInt(1030000) : random.nextInt(12));
+        }
+        if (what == 1 && depth == 0 && random.nextInt(3) == 0) {
+            int open = 9 + random.nextInt(3);
+            return "(".repeat(open) + expression(kind, 5) + ")".repeat(open);
         }
         if (what <= 2) {
             return String.valueOf(PlainText.NAMES[kind].charAt(random.nextInt(PlainText.NAMES[kind].length())));
